@@ -1020,7 +1020,7 @@ public final class WhiteLine {
         }
 
         private int valueOf(int letter) {
-            if (road == null || !road.isDot(dot)) {
+            if (road == null || dot < 0 || dot >= road.dots) {
                 return 0;
             }
             switch (letter) {

@@ -13,6 +13,7 @@ public final class DriverPromisesTest {
         who();
         whoOthers();
         whoSparesNone();
+        whoSparesSome();
         Due.end("DriverPromisesTest");
     }
 
@@ -50,6 +51,8 @@ public final class DriverPromisesTest {
         int[] twenty = new int[40];
         Due.is("26 twenty at once", 190, lights(9, 0, twenty));
         Due.is("26 twenty at once", 20, lights(9, 1, twenty));
+        Due.is("26 two at once", 2, lights(0, 1, 0, 0, 0, 0));
+        Due.is("26 two at once", 1, lights(0, 0, 0, 0, 0, 0));
         // By 1 and red 1: end 0 at 0, 4, 8 and end 1 at 2, 6, 10; by 2: 0, 1, 6, 7 and 3, 4, 9, 10.
         int[] five = {0, 0, 1, 1, 2, 0, 5, 1, 5, 1};
         Due.is("26 by 1", 0 + 1 + 2 + 1 + 5, lights(1, 11, five));
@@ -170,6 +173,17 @@ public final class DriverPromisesTest {
             Due.is("29 burnFirst(" + one[0] + ", 8) begins", one[1], x.burnFirst(one[0], 8, false, 0));
             Due.is("29 burnFirst(" + one[0] + ", 8) lost", one[2], x.burnFirst(one[0], 8, false, 1));
         }
+        x.old(0, 5, -100);
+        Due.is("29 the last stretch", 6, x.burnFirst(1, 0, true, 0));
+        Due.is("29 none is lost then", 0, x.burnFirst(1, 0, true, 1));
+        x.old(0, 7, 0);
+        x.old(1, 6, -100);
+        Due.kerb(x, "0*7,9");
+        Due.is("29 the very last", 7, x.burnFirst(1, 0, true, 0));
+        Due.kerb(x, "0,9,0*6");
+        x.old(0, 7, 0);
+        Due.is("29 the second", 1, x.burnFirst(1, 0, true, 0));
+        Due.kerb(x, "9,0,9,0,0,9,9,0");
         Due.is("29 none lost: the lowest", 0, x.burnFirst(3, 9, true, 0));
         Due.is("29 none lost", 0, x.burnFirst(3, 9, true, 1));
         Due.is("29 changes nothing", 4, x.lost(8, false));
@@ -273,6 +287,31 @@ public final class DriverPromisesTest {
         Due.is("32 by dew", 12, x.dot(7, 6));
         // Dot 7, wet from 36 to 65, must be spared: from dot 0 it is passed at 8 to 37.
         whoIs("dew is no car", x, 28 + 24, 0, 1);
+    }
+
+    private static void whoSparesSome() {
+        WhiteLine x = by("d1(i=2);d2(i=1);d4(1=1)");
+        x.party(0, true, 0);
+        x.minutes(8);
+        x.car(11, 1, 9);
+        x.minutes(11);
+        // Dot i was painted at i + 1, and wet for 4: dot 7 is hit at 9, dot 6 at 10, dot 5 is dry at 11.
+        Due.is("32 by car 11", 11, x.dot(7, 6));
+        Due.is("32 by car 11", 11, x.dot(6, 6));
+        Due.is("32 no other", 2, x.count(3));
+        // From the last dot, 8 to 11 hit dot 7, 6 to 9 dot 6, 4 to 7 dot 5, 2 to 5 dot 4, 0 to 3 dot 3, none
+        // the others; from dot 0, 1 to 4 hit nearly all of them.
+        whoIs("of two that were hit", x, 2, 8, 1);
+        x.burns(6, 6);
+        whoIs("of one that was hit", x, 4, 8, 1);
+        x.burns(7, 7);
+        whoIs("of none that was hit", x, (20 - 4) + (20 - 8), 0, 0);
+        x.burns(3, 5);
+        x.burns(0, 0);
+        // Left are dot 1, hit from dot 0 by 1 and 2, and dot 2, by 1.
+        whoIs("of none that was hit", x, (20 - 2) + 20, 0, 0);
+        x.burns(1, 1);
+        whoIs("of none that was hit", x, (20 - 1) + 20, 0, 0);
     }
 
     private static void whoSparesNone() {

@@ -324,6 +324,11 @@ public final class LawPromisesTest {
         x.minutes(8);
         Due.is("6 no rain", 2, x.believed(0, false));
         Due.is("6 rain", 1, x.believed(0, true));
+        Due.law(x, "o5(a=0);l9(a=0)");
+        Due.is("6 a is 0 in o and l", 2, x.believed(0, false));
+        Due.law(x, "o5(1=1);l9(t=8&i=3)");
+        Due.is("6 t is the minute in l", 2, x.believed(3, false));
+        Due.is("6 i is the dot in l", 1, x.believed(4, false));
         Due.law(x, "s9(a=0&r=0&t=8)");
         Due.height(x, "0*4,9,0*3");
         Due.is("6 a and r are 0 in s, t is the minute", 2, x.marked(0, 1));

@@ -85,6 +85,8 @@ public final class LinePromisesTest {
         // Told at 0, 4 and 7: straight from 9 to 0 in three: 6, 3; from 0 to 9 in four: 2, 4, 6.
         Due.is("16 by e 6: 0, 4, 7", 4, y.apart(6, 0));
         Due.is("16 off by it", 2 + 4 + 6 + 6 + 3, y.apart(6, 1));
+        // At every second dot the kerb is as straight as the line.
+        Due.is("16 by 2", 2, by("0,1,2,9,16,8,0,0").apart(0, 0));
         WhiteLine z = new WhiteLine();
         z.road(40);
         Due.kerb(z, "0*20,1*20");

@@ -292,6 +292,13 @@ public final class NightPromisesTest {
         y.minutes(3);
         Due.is("10 painted in that minute, by any d", 12, y.dot(2, 6));
         Due.is("10 the one ahead is dry", -2, y.dot(1, 6));
+        WhiteLine z = by(8, "p9(r=1);d9(1=1)");
+        z.party(0, true, 0);
+        z.party(1, true, 0);
+        z.dew(3);
+        z.minutes(4);
+        Due.is("10 from the first to the last", 8, z.count(3));
+        Due.is("10 the first", 12, z.dot(0, 6));
     }
 
     private static void burns() {

@@ -76,6 +76,8 @@ public final class PlanPromisesTest {
         // Party 0 ends at 1 to 6, party 1 at 3 and 6.
         Due.is("21 by party", 15, y.begins(0, 0));
         Due.is("21 the last", 6, y.begins(0, 2));
+        Due.law(y, "p5(r=1);d5(r=1)");
+        Due.is("21 no rain in p and d", 4, y.begins(0, 0));
     }
 
     private static void latest() {
@@ -112,6 +114,8 @@ public final class PlanPromisesTest {
         odds(x, 1, 5, 2, 5, 1, 2, 3, 4);
         odds(x, 10, 5, 0, 1, 1, 2, 3, 4);
         odds(x, 0, 6, 1, 2, 255, 255);
+        odds(x, 0, 7, 1, 1, 1);
+        odds(x, 0, 6, 0, 1, 1);
         odds(x, 0, 0, 1, 8, 1, 1, 1, 1, 1, 1, 1, 1);
         odds(x, 0, 7, 1, 1, 0, 0, 5);
         odds(x, 600, 9999, 1, 1, 200);
