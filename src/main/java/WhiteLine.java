@@ -358,7 +358,7 @@ public final class WhiteLine {
     }
 
     public int pinned(int e, int what) {
-        if (!isIn(e, 0, MOST_OFFSET) || !isIn(what, 0, 101)) {
+        if (!isIn(e, 0, MOST_OFFSET)) {
             return NONE;
         }
         int pins = fit.pin(now, e);
@@ -368,7 +368,8 @@ public final class WhiteLine {
         if (what == 101) {
             return fit.offByPins(now, pins);
         }
-        return what < pins ? fit.chosen[what] : NOTHING;
+        // The document sets no bounds to what: any other one is a place, there or not.
+        return isIn(what, 0, pins - 1) ? fit.chosen[what] : NOTHING;
     }
 
     public int lights(int n, int r, int what) {

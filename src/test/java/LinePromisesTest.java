@@ -138,7 +138,11 @@ public final class LinePromisesTest {
         for (int k = 0; k < pins.length; k++) {
             Due.is("25 pinned(" + e + ", " + k + ")", pins[k], x.pinned(e, k));
         }
-        for (int k = pins.length; k < 100; k += 7) {
+        for (int k = pins.length; k < 100; k++) {
+            Due.is("25 pinned(" + e + ", " + k + ")", -2, x.pinned(e, k));
+        }
+        int[] noPlaces = {-1, -2, -100, 102, 124, 200, Integer.MIN_VALUE, Integer.MAX_VALUE};
+        for (int k : noPlaces) {
             Due.is("25 pinned(" + e + ", " + k + ")", -2, x.pinned(e, k));
         }
     }
@@ -161,8 +165,9 @@ public final class LinePromisesTest {
 
     private static void pinnedRefused() {
         WhiteLine x = by("0*8");
-        int[][] none = {{-1, 0}, {100, 0}, {0, -1}, {0, 102}, {Integer.MIN_VALUE, 0}, {Integer.MAX_VALUE, 0},
-            {0, Integer.MIN_VALUE}, {0, Integer.MAX_VALUE}};
+        // NONE is told ahead of -2.
+        int[][] none = {{-1, 0}, {100, 0}, {Integer.MIN_VALUE, 0}, {Integer.MAX_VALUE, 0},
+            {-1, -1}, {-1, 100}, {-1, 124}, {100, -1}, {100, 101}, {100, 124}};
         for (int[] call : none) {
             Due.is("25 pinned(" + call[0] + ", " + call[1] + ")", -1, x.pinned(call[0], call[1]));
         }

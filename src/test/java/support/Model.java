@@ -585,7 +585,7 @@ final class Model {
     }
 
     int pinned(int e, int what) {
-        if (!in(e, 0, 99) || !in(what, 0, 101)) {
+        if (!in(e, 0, 99)) {
             return NONE;
         }
         List<List<Integer>> best = new ArrayList<>();
@@ -602,10 +602,10 @@ final class Model {
             best.add(least);
         }
         List<Integer> pins = best.get(now.n - 1);
-        if (what >= 100) {
+        if (what == 100 || what == 101) {
             return what == 100 ? pins.size() : off(pins)[1];
         }
-        return what < pins.size() ? pins.get(what) : -2;
+        return what >= 0 && what < pins.size() ? pins.get(what) : -2;
     }
 
     private static boolean isLess(List<Integer> a, List<Integer> b) {
