@@ -1,18 +1,64 @@
+import java.io.IOException;
+import java.nio.file.Files;
+import java.nio.file.Path;
+import java.util.HashSet;
+import java.util.Set;
+
 /** Counts answers that are not the ones that are due, and ends a test. */
 final class Due {
     private static int asked = 0;
     private static int wrong = 0;
+    private static int sentences = 0;
+    private static int askedOfSentence = 1;
+    private static final int MOST_SHOWN = Integer.getInteger("whiteline.shown", 40);
+    private static String sentence = "";
+    private static final Set<String> TOLD = new HashSet<>();
 
     private Due() {
     }
 
+    /** What is asked from now on belongs to these words of the document, and something must be. */
+    static void sentence(String place, String words) {
+        endSentence();
+        sentences++;
+        sentence = place + " '" + words + "': ";
+        askedOfSentence = 0;
+        if (!TOLD.add(sentence)) {
+            fail(sentence + "has a test already");
+        }
+        String document = System.getProperty("whiteline.document");
+        if (document != null && !textOf(document).contains(words)) {
+            fail(sentence + "is not in the document");
+        }
+    }
+
+    private static void endSentence() {
+        if (askedOfSentence == 0) {
+            fail(sentence + "nothing was asked");
+        }
+        sentence = "";
+    }
+
+    private static String textOf(String document) {
+        try {
+            return Files.readString(Path.of(document));
+        } catch (IOException e) {
+            return "";
+        }
+    }
+
+    private static void fail(String why) {
+        wrong++;
+        if (wrong <= MOST_SHOWN) {
+            System.out.println(why);
+        }
+    }
+
     static void is(String call, long want, long got) {
         asked++;
+        askedOfSentence++;
         if (got != want) {
-            wrong++;
-            if (wrong <= 40) {
-                System.out.println(call + " answered " + got + ", due is " + want);
-            }
+            fail(sentence + call + " answered " + got + ", due is " + want);
         }
     }
 
@@ -21,7 +67,9 @@ final class Due {
     }
 
     static void end(String test) {
-        System.out.println(test + ": " + asked + " answers, " + wrong + " wrong");
+        endSentence();
+        String of = sentences > 0 ? " to " + sentences + " sentences" : "";
+        System.out.println(test + ": " + asked + " answers" + of + ", " + wrong + " wrong");
         if (wrong != 0 || asked == 0) {
             System.exit(1);
         }
