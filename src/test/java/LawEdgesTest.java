@@ -19,8 +19,10 @@ public final class LawEdgesTest {
         pieces();
         negations();
         comparisons();
+        termsAndFactors();
         fromTheLeft();
         digits();
+        lettersOfADot();
         kerbAhead();
         minuteOfTheLaw();
         parties();
@@ -269,6 +271,23 @@ public final class LawEdgesTest {
         Due.is("no sign", -1004, law("p1(1~1)"));
     }
 
+    private static void termsAndFactors() {
+        Due.sentence(LAW, "E: TERMS with + or - between two; a TERM: FACTORS with one of * / % between two");
+        isWorth(5, "5");
+        isWorth(7, "5+2");
+        isWorth(3, "5-2");
+        isWorth(10, "5*2");
+        isWorth(2, "5/2");
+        isWorth(1, "5%2");
+        isWorth(5 + 14 - 3 + 1, "5+2*7-10/3+9%4");
+        Due.is("- ahead", -1001, law("d-5(1=1)"));
+        Due.is("+ ahead", -1001, law("d+5(1=1)"));
+        Due.is("two of them", -1003, law("d5+-2(1=1)"));
+        Due.is("two of them", -1003, law("d5**2(1=1)"));
+        Due.is("nothing behind", -1003, law("d5%(1=1)"));
+        Due.is("another sign", -1002, law("d5^2(1=1)"));
+    }
+
     private static void fromTheLeft() {
         Due.sentence(LAW, "from the left on");
         isWorth(13, "20-3-4");
@@ -298,6 +317,29 @@ public final class LawEdgesTest {
         for (int i = 0; i < 8; i++) {
             Due.is(condition + " at " + i, dots.indexOf('0' + i) >= 0 ? 1 : 0, x.believed(i, false));
         }
+    }
+
+    private static void lettersOfADot() {
+        Due.sentence(LAW, "i the DOT, n DOTS in all, k KERB, h HEIGHT, w WEAR of it");
+        WhiteLine x = Made.road(8);
+        x.old(0, 7, 0);
+        Due.kerb(x, "99,-99,0*6");
+        Due.height(x, "0*6,99,1");
+        Due.wear(x, "0,1,0*5,99");
+        holdsAt(x, "i=0", "0");
+        holdsAt(x, "i=7", "7");
+        holdsAt(x, "i+1=n", "7");
+        holdsAt(x, "n=8", "01234567");
+        holdsAt(x, "k=99", "0");
+        holdsAt(x, "k=0-99", "1");
+        holdsAt(x, "h=99", "6");
+        holdsAt(x, "h=1", "7");
+        holdsAt(x, "w=99", "7");
+        holdsAt(x, "w=1", "1");
+        x.road(64);
+        x.old(63, 63, 0);
+        Due.law(x, "o1(i=63&n=64)");
+        Due.is("the last of 64", 1, x.believed(63, false));
     }
 
     private static void kerbAhead() {
@@ -370,13 +412,15 @@ public final class LawEdgesTest {
 
     private static void notTold() {
         Due.sentence(LAW, "(Where they are not told they are 0.)");
-        WhiteLine x = Made.by(8, "p5(r=1);d5(r=1);s7(a=1|r=1);o9(a=0);l9(a=0)");
+        WhiteLine x = Made.by(8, "p5(!r=0);d5(!r=0);s7(!a=0|!r=0);o9(a=0);l9(a=0)");
         Due.is("r in p and d", 4, x.begins(0, 0));
         Due.height(x, "0,0,9,0,0,9,0,0");
         Due.is("a and r in s", 3, x.marked(3, 1));
         x.party(1, true, 0);
         x.old(0, 0, 0);
         x.minutes(1);
+        Due.is("r in p, of a night", 1, x.dot(7, 5));
+        Due.is("r in d, of a night", 0, x.dot(7, 7));
         Due.is("a in o", 1, x.believed(0, true));
         Due.is("a in l, of party 1's paint", 2, x.believed(7, true));
     }
@@ -439,8 +483,11 @@ public final class LawEdgesTest {
         isWorth(0, "[[9%0]+50]");
         Due.is("p: held in its bounds", 1, minutesOfP("p7+1/0(1=1)"));
         Due.is("the clause holds all the same", 4, Made.by(8, "d7/0(1=1);d9(1=1)").begins(0, 0));
-        WhiteLine x = Made.by(8, "d20/[i-3](1=1)");
-        Due.is("of that dot alone", 4 + 20, x.begins(0, 0));
+        // Dot 4 is painted at 4, and d is 20 / 1 and 9 there.
+        WhiteLine x = Made.by(8, "d20/[i-3]+9(1=1)");
+        for (int k = 0; k < 40; k++) {
+            Due.is("of that dot alone, however often", 4 + 29, x.begins(0, 0));
+        }
     }
 
     private static void asMuchAsMatters() {
@@ -492,9 +539,12 @@ public final class LawEdgesTest {
         for (Object[] one : due) {
             Due.is("law " + one[0], (Integer) one[1], law((String) one[0]));
         }
-        WhiteLine x = Made.road(8);
-        Due.feed(x, "p1(1=1);d1(1=1)");
-        Due.is("the tape goes on, the text does not", -1006, x.law(6));
+        Object[][] goesOn = {{"p1(1=1)", 6, -1006}, {"p12345", 2, -1002}, {"p1(1=1);d", 8, -1008}, {"p1(1=12)", 7, -1007}};
+        for (Object[] one : goesOn) {
+            WhiteLine x = Made.road(8);
+            Due.feed(x, (String) one[0]);
+            Due.is(one[1] + " bytes of " + one[0], (Integer) one[2], x.law((Integer) one[1]));
+        }
     }
 
     private static void sixthDigit() {

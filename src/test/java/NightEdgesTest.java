@@ -213,6 +213,11 @@ public final class NightEdgesTest {
         Due.is("party 1 works till it looks", 1, x.count(11));
         x.minutes(1);
         Due.is("party 1 stopped", 0, x.count(11));
+        x.party(1, true, 0);
+        x.cones(0);
+        x.minutes(1);
+        Due.is("it stops without cones, too", 0, x.count(11));
+        x.cones(64);
         x.burns(0, 7);
         Due.is("they do not begin again", 0, x.minutes(5));
     }
@@ -493,6 +498,14 @@ public final class NightEdgesTest {
         Due.is("one is being painted, not wet", 1, x.dot(6, 8));
         x.minutes(5);
         Due.is("not behind it", 4, x.count(3));
+        WhiteLine all = Made.by(64, "d99(1=1)");
+        all.party(0, true, 0);
+        all.dew(64);
+        all.minutes(64);
+        Due.is("none of 64", 0, all.count(3));
+        all.minutes(1);
+        Due.is("all of 64", 64, all.count(3));
+        Due.is("the last of 64", 12, all.dot(63, 6));
     }
 
     private static void spoiltByDew() {

@@ -4,24 +4,39 @@ public final class Promises15To26EdgesTest {
     private static final int MOST = Integer.MAX_VALUE;
 
     public static void main(String[] args) {
-        smooth();
-        apart();
+        smoothWhat();
+        smoothRefused();
+        apartWhat();
+        apartRefused();
         seen();
         marked();
         markings();
+        markingsRefused();
         joins();
-        begins();
+        beginsWhat();
+        beginsLast();
+        beginsRefused();
         latest();
-        dewOdds();
-        dewOddsRefused();
-        meet();
-        pinned();
-        lights();
+        oddsMinute();
+        oddsWeights();
+        oddsWithoutDivisor();
+        oddsOfNothing();
+        oddsRefused();
+        meetDot();
+        meetEnd();
+        meetApart();
+        meetRefused();
+        pinnedWhat();
+        pinnedNoPlace();
+        pinnedRefused();
+        lightsCars();
+        lightsWhat();
+        lightsNoSuchCars();
         lightsRefused();
         Due.end("Promises15To26EdgesTest");
     }
 
-    private static void smooth() {
+    private static void smoothWhat() {
         Due.sentence("Promise 15", "what 100 how far off in all, else the offset at DOT what (100 more than it is)");
         WhiteLine x = Made.road(8);
         Due.kerb(x, "-99,30*6,99");
@@ -33,7 +48,13 @@ public final class Promises15To26EdgesTest {
         WhiteLine y = Made.road(64);
         Due.kerb(y, "0*63,9");
         Due.is("the last of 64", 109, y.smooth(9, 63));
+    }
+
+    private static void smoothRefused() {
         Due.sentence("Promise 15", "(100 more than it is); NONE: no such ones.");
+        WhiteLine x = Made.road(8);
+        WhiteLine y = Made.road(64);
+        Due.kerb(y, "0*63,9");
         int[][] none = {{-1, 100}, {10, 100}, {LEAST, 100}, {MOST, 100}, {0, -1}, {0, 8}, {0, 63}, {0, 99}, {0, 101},
             {0, LEAST}, {0, MOST}, {10, 8}};
         for (int[] one : none) {
@@ -44,7 +65,7 @@ public final class Promises15To26EdgesTest {
         Due.is("g 9", 0, y.smooth(9, 100));
     }
 
-    private static void apart() {
+    private static void apartWhat() {
         Due.sentence("Promise 16", "DOTS APART by e (0 to 99), what 0 m, 1 how far off in all by it");
         WhiteLine x = Made.road(8);
         Due.kerb(x, "0,99,0*6");
@@ -52,7 +73,11 @@ public final class Promises15To26EdgesTest {
         Due.is("apart(99, 1)", 99, x.apart(99, 1));
         Due.is("apart(0, 0)", 1, x.apart(0, 0));
         Due.is("apart(0, 1)", 0, x.apart(0, 1));
+    }
+
+    private static void apartRefused() {
         Due.sentence("Promise 16", "1 how far off in all by it; NONE: no such ones.");
+        WhiteLine x = Made.road(8);
         int[][] none = {{-1, 0}, {100, 0}, {LEAST, 0}, {MOST, 0}, {0, -1}, {0, 2}, {0, LEAST}, {0, MOST}};
         for (int[] one : none) {
             Due.is("apart(" + one[0] + ", " + one[1] + ")", -1, x.apart(one[0], one[1]));
@@ -108,7 +133,11 @@ public final class Promises15To26EdgesTest {
         Due.is("all on end", 8, x.markings(9, 3, 1));
         Due.is("none", 0, x.markings(1, 0, 0));
         Due.is("none", 0, x.markings(1, 0, 1));
+    }
+
+    private static void markingsRefused() {
         Due.sentence("Promise 19", "the longest such stretch (1); NONE: no such ones.");
+        WhiteLine x = Made.road(8);
         int[][] none = {{0, 0, 0}, {10, 0, 0}, {LEAST, 0, 0}, {MOST, 0, 0}, {1, -1, 0}, {1, 4, 0}, {1, LEAST, 0},
             {1, 0, -1}, {1, 0, 2}, {1, 0, LEAST}, {1, 0, MOST}};
         for (int[] one : none) {
@@ -129,7 +158,7 @@ public final class Promises15To26EdgesTest {
         }
     }
 
-    private static void begins() {
+    private static void beginsWhat() {
         Due.sentence("Promise 21", "TO BEGIN at a MINUTE (0 to 600), what 0 when all is dry, 1 CONES that are needed");
         WhiteLine x = Made.by(8, "d3(1=1)");
         Due.is("begins(0, 0)", 7, x.begins(0, 0));
@@ -137,13 +166,21 @@ public final class Promises15To26EdgesTest {
         Due.is("begins(0, 1)", 8, x.begins(0, 1));
         WhiteLine slow = Made.by(64, "p9(1=1);d99(1=1)");
         Due.is("the latest", 600 + 32 * 9 + 99, slow.begins(600, 0));
+    }
+
+    private static void beginsLast() {
         Due.sentence("Promise 21", "2 the DOT that is painted last (of both in one MINUTE the one of PARTY 1)");
+        WhiteLine x = Made.by(8, "d3(1=1)");
         Due.is("of both in one minute", 4, x.begins(0, 2));
         Due.is("of nine, by party 0 alone", 4, Made.road(9).begins(0, 2));
         Due.is("the slow one of party 0", 0, Made.by(8, "p9(i=0)").begins(0, 2));
         Due.is("the slow one of party 1", 7, Made.by(8, "p9(i=7)").begins(0, 2));
         Due.is("both slow ones end in one minute", 4, Made.by(8, "p9(i=3|i=4)").begins(0, 2));
+    }
+
+    private static void beginsRefused() {
         Due.sentence("Promise 21", "the one of PARTY 1); NONE: no such ones.");
+        WhiteLine x = Made.road(8);
         int[][] none = {{-1, 0}, {601, 0}, {LEAST, 0}, {MOST, 0}, {0, -1}, {0, 3}, {0, LEAST}, {0, MOST}};
         for (int[] one : none) {
             Due.is("begins(" + one[0] + ", " + one[1] + ")", -1, x.begins(one[0], one[1]));
@@ -172,6 +209,11 @@ public final class Promises15To26EdgesTest {
         }
     }
 
+    /** A road that, begun at 0, is dry at 7. */
+    private static WhiteLine dryAt7() {
+        return Made.by(8, "d3(1=1)");
+    }
+
     private static void oddsAre(WhiteLine x, int minute, int from, int above, int below, int... weights) {
         String call = "dewOdds(" + minute + ", " + from + ", " + weights.length;
         Due.feed(x, weights);
@@ -181,16 +223,19 @@ public final class Promises15To26EdgesTest {
         Due.is(call + ", 1)", below, x.dewOdds(minute, from, weights.length, 1));
     }
 
-    private static void dewOdds() {
-        // Dry at 7.
-        WhiteLine x = Made.by(8, "d3(1=1)");
+    private static void oddsMinute() {
         Due.sentence("Promise 23", "begun in a MINUTE (0 to 600), by the first n bytes of the tape");
+        WhiteLine x = dryAt7();
         oddsAre(x, 0, 7, 1, 1, 5);
         oddsAre(x, 600, 607, 1, 1, 5);
         oddsAre(x, 600, 606, 0, 1, 5);
         Due.feed(x, 0, 3, 9);
         Due.is("the first two", 1, x.dewOdds(0, 7, 2, 0));
+    }
+
+    private static void oddsWeights() {
         Due.sentence("Promise 23", "(weights for MINUTES from, from + 1 .., from 0 to 9999; n 1 to 40; empty then)");
+        WhiteLine x = dryAt7();
         oddsAre(x, 0, 0, 1, 8, 1, 1, 1, 1, 1, 1, 1, 1);
         oddsAre(x, 0, 6, 3, 4, 1, 3);
         oddsAre(x, 0, 9999, 1, 1, 1, 1);
@@ -200,13 +245,21 @@ public final class Promises15To26EdgesTest {
         oddsAre(x, 0, 0, 33, 40, forty);
         forty[39] = 0;
         oddsAre(x, 0, 0, 32, 39, forty);
+    }
+
+    private static void oddsWithoutDivisor() {
         Due.sentence("Promise 23", "what 0 above, 1 below the line, without a common divisor");
+        WhiteLine x = dryAt7();
         oddsAre(x, 0, 6, 1, 2, 255, 255);
         oddsAre(x, 0, 6, 0, 1, 200, 0);
         oddsAre(x, 0, 6, 1, 1, 0, 200);
         oddsAre(x, 0, 6, 5, 7, 100, 250);
         oddsAre(x, 0, 6, 255, 256, 1, 255);
+    }
+
+    private static void oddsOfNothing() {
         Due.sentence("Promise 23", "-2: no weight above 0");
+        WhiteLine x = dryAt7();
         for (int n = 1; n <= 2; n++) {
             Due.feed(x, 0, 0, 7);
             Due.is("zeros, above", -2, x.dewOdds(0, 7, n, 0));
@@ -216,7 +269,7 @@ public final class Promises15To26EdgesTest {
         }
     }
 
-    private static void dewOddsRefused() {
+    private static void oddsRefused() {
         Due.sentence("Promise 23", "-2: no weight above 0; NONE: no such ones, it has not so many (the tape stays).");
         WhiteLine x = Made.road(8);
         Due.is("it has none", -1, x.dewOdds(0, 0, 1, 0));
@@ -237,27 +290,39 @@ public final class Promises15To26EdgesTest {
         Due.is("40 of 60", 9, x.dewOdds(0, 0, 40, 0));
     }
 
-    private static void meet() {
+    private static void meetDot() {
         Due.sentence("Promise 24", "TO MEET by MINUTES (0 to 600 each), what 0 the DOT (-2: 0 paints none)");
         WhiteLine x = Made.road(8);
         int[][] due = {{0, 0, 3}, {600, 600, 3}, {0, 600, 7}, {600, 0, -2}, {7, 0, 0}, {8, 0, -2}};
         for (int[] one : due) {
             Due.is("meet(" + one[0] + ", " + one[1] + ", 0)", one[2], x.meet(one[0], one[1], 0));
         }
+    }
+
+    private static void meetEnd() {
         Due.sentence("Promise 24", "1 the MINUTE at which the last one is painted (its end)");
+        WhiteLine x = Made.road(8);
         int[][] ends = {{0, 0, 4}, {600, 600, 604}, {0, 600, 8}, {600, 0, 8}, {0, 1, 5}, {7, 0, 8}};
         for (int[] one : ends) {
             Due.is("meet(" + one[0] + ", " + one[1] + ", 1)", one[2], x.meet(one[0], one[1], 1));
         }
         Due.is("of a slow one", 9, Made.by(8, "p9(i=0)").meet(0, 0, 1));
+    }
+
+    private static void meetApart() {
         Due.sentence("Promise 24", "2 how far apart (-2: one of both paints all)");
+        WhiteLine x = Made.road(8);
         x.party(0, false, 4);
         Due.is("both", 4, x.meet(0, 0, 2));
         Due.is("0 paints all but one", 4, x.meet(0, 6, 2));
         Due.is("0 paints all", -2, x.meet(0, 7, 2));
         Due.is("1 paints all but one", 4, x.meet(7, 0, 2));
         Due.is("1 paints all", -2, x.meet(8, 0, 2));
+    }
+
+    private static void meetRefused() {
         Due.sentence("Promise 24", "(-2: one of both paints all); NONE: no such ones.");
+        WhiteLine x = Made.road(8);
         int[][] none = {{-1, 0, 0}, {601, 0, 0}, {LEAST, 0, 0}, {MOST, 0, 0}, {0, -1, 0}, {0, 601, 0}, {0, LEAST, 0},
             {0, MOST, 0}, {0, 0, -1}, {0, 0, 3}, {0, 0, LEAST}, {0, 0, MOST}, {600, 0, 3}};
         for (int[] one : none) {
@@ -265,7 +330,7 @@ public final class Promises15To26EdgesTest {
         }
     }
 
-    private static void pinned() {
+    private static void pinnedWhat() {
         Due.sentence("Promise 25", "PINNED by e (0 to 99), what 100 how many, 101 how far off in all, else the DOT at place what");
         WhiteLine x = Made.road(8);
         Due.kerb(x, "0,99,0*6");
@@ -276,13 +341,22 @@ public final class Promises15To26EdgesTest {
         WhiteLine y = Made.road(64);
         Due.kerb(y, "0,9,0*2,9*2,0*3,9*3,0*4,9*4,0*5,9*5,0*6,9*6,0*7,9*7,0*8");
         Due.is("the last place of many", 63, y.pinned(0, y.pinned(0, 100) - 1));
+    }
+
+    private static void pinnedNoPlace() {
         Due.sentence("Promise 25", "-2: no such place");
+        WhiteLine x = Made.road(8);
+        Due.kerb(x, "0,99,0*6");
         for (int what : new int[] {-1, -2, 4, 8, 63, 64, 99, 102, 124, LEAST, MOST}) {
             Due.is("pinned(0, " + what + ")", -2, x.pinned(0, what));
         }
         Due.is("pinned(0, 3)", 7, x.pinned(0, 3));
         Due.is("pinned(99, 2)", -2, x.pinned(99, 2));
+    }
+
+    private static void pinnedRefused() {
         Due.sentence("Promise 25", "-2: no such place; NONE: no such ones.");
+        WhiteLine x = Made.road(8);
         for (int e : new int[] {-1, 100, LEAST, MOST}) {
             for (int what : new int[] {0, 100, 101, -1, 124}) {
                 Due.is("pinned(" + e + ", " + what + ")", -1, x.pinned(e, what));
@@ -306,10 +380,12 @@ public final class Promises15To26EdgesTest {
         return answer;
     }
 
-    private static void lights() {
+    private static void lightsCars() {
         Due.sentence("Promise 26", "(a MINUTE 0 to 255, an end 0, 1; n 1 to 20; MINUTES not falling; empty then)");
         Due.is("0", 0, lights(0, 11, 0, 0));
         Due.is("255", 0, lights(0, 11, 255, 1));
+        // By 20 and 9 end 0 has green from 232 to 251, and from 290 on.
+        Due.is("255 and not 127", 35, lights(9, 30, 255, 0));
         Due.is("one", 1, lights(0, 11, 0, 1));
         Due.is("twenty", 190, lights(0, 30, new int[40]));
         Due.is("MINUTES alike: at 5 and at 8", 3, lights(0, 12, 5, 0, 5, 0));
@@ -317,6 +393,9 @@ public final class Promises15To26EdgesTest {
         WhiteLine x = new WhiteLine();
         Due.feed(x, 0, 0, 0, 0, 0, 7);
         Due.is("the first 2 n bytes alone", 1, x.lights(2, 0, 12));
+    }
+
+    private static void lightsWhat() {
         Due.sentence("Promise 26", "by r (0 to 9), what 0 MINUTES by the best g, 1 that g, 10 + g MINUTES by g (1 to 20)");
         Due.is("r 0", 2, lights(0, 12, 0, 1));
         Due.is("r 9", 11, lights(9, 12, 0, 1));
@@ -325,6 +404,9 @@ public final class Promises15To26EdgesTest {
         for (int g = 1; g <= 20; g++) {
             Due.is("10 + " + g, g, lights(0, 10 + g, 0, 1));
         }
+    }
+
+    private static void lightsNoSuchCars() {
         Due.sentence("Promise 26", "-2: no such cars");
         int[][] wrong = {{0, 2}, {0, 255}, {0, 128}, {5, 0, 4, 0}, {0, 0, 0, 2}, {255, 1, 0, 1}};
         for (int[] cars : wrong) {

@@ -2,18 +2,28 @@
 public final class Promises27To36EdgesTest {
     private static final int LEAST = Integer.MIN_VALUE;
     private static final int MOST = Integer.MAX_VALUE;
+    /** What is to be told of eight dots at 5 inches, and one byte more. */
+    private static final int[] ALL_AT_5 = {105, 105, 105, 105, 105, 105, 105, 105, 9};
 
     public static void main(String[] args) {
         believed();
         lost();
         burnFirst();
+        burnFirstRefused();
         cut();
-        renewed();
+        renewedWhat();
+        renewedNoRoom();
+        renewedRefused();
         who();
+        whoRefused();
         keep();
         undo();
-        check();
-        count();
+        checkRight();
+        checkWrong();
+        checkRefused();
+        countPlain();
+        countParties();
+        countCars();
         countOthers();
         Due.end("Promises27To36EdgesTest");
     }
@@ -45,6 +55,10 @@ public final class Promises27To36EdgesTest {
         }
         x.old(0, 7, -100);
         Due.is("no OLD line", 0, x.lost(0, true));
+        WhiteLine y = Made.by(64, "o9(1=1)");
+        y.old(0, 63, 5);
+        Due.is("all of 64", 64, y.lost(4, false));
+        Due.is("none of 64", 0, y.lost(5, false));
     }
 
     private static void burnFirst() {
@@ -59,9 +73,18 @@ public final class Promises27To36EdgesTest {
             Due.is(call + ", .., 1)", one[3], x.burnFirst(one[0], one[1], false, 1));
         }
         WhiteLine y = Made.by(64, "o9(1=1)");
+        y.old(63, 63, 5);
+        Due.is("the last of 64", 63, y.burnFirst(1, 0, false, 0));
+        Due.is("the last of 64", 0, y.burnFirst(1, 0, false, 1));
+        Due.is("64 of 64", 0, y.burnFirst(64, 0, false, 0));
         Due.is("64 of 64", 0, y.burnFirst(64, 0, false, 1));
+        Due.is("65 of 64", -1, y.burnFirst(65, 0, false, 1));
         Due.is("nothing is burnt", 2, x.lost(0, false));
+    }
+
+    private static void burnFirstRefused() {
         Due.sentence("Promise 29", "1 how many DOTS are LOST then; NONE: no such ones.");
+        WhiteLine x = Made.road(8);
         int[][] none = {{0, 0, 0}, {9, 0, 0}, {-1, 0, 0}, {LEAST, 0, 0}, {MOST, 0, 0}, {1, -1, 0}, {1, 100, 0}, {1, LEAST, 0},
             {1, MOST, 0}, {1, 0, -1}, {1, 0, 2}, {1, 0, LEAST}, {1, 0, MOST}};
         for (int[] one : none) {
@@ -91,7 +114,7 @@ public final class Promises27To36EdgesTest {
         }
     }
 
-    private static void renewed() {
+    private static void renewedWhat() {
         Due.sentence("Promise 31", "what 10 WEAR in all, else where the stretch at place what begins");
         WhiteLine x = Made.road(8);
         Due.wear(x, "1,9,2,8,3,7,4,6");
@@ -107,14 +130,23 @@ public final class Promises27To36EdgesTest {
         Due.is("the last of 64", 48, y.renewed(1, 16, 0));
         Due.is("4 of 16 of 64", 48, y.renewed(4, 16, 3));
         Due.is("4 of 16 of 64", 99 * 16, y.renewed(4, 16, 10));
+    }
+
+    private static void renewedNoRoom() {
         Due.sentence("Promise 31", "-2: they do not lie on the road");
+        WhiteLine x = Made.road(8);
+        Due.wear(x, "1,9,2,8,3,7,4,6");
         int[][] noRoom = {{1, 9, 0}, {1, 9, 10}, {1, 16, 0}, {2, 5, 1}, {3, 3, 2}, {4, 3, 10}, {4, 16, 3}};
         for (int[] one : noRoom) {
             Due.is("renewed(" + one[0] + ", " + one[1] + ", " + one[2] + ")", -2, x.renewed(one[0], one[1], one[2]));
         }
         Due.is("just on it", 40, x.renewed(2, 4, 10));
         Due.is("just on it", 4, x.renewed(2, 4, 1));
+    }
+
+    private static void renewedRefused() {
         Due.sentence("Promise 31", "-2: they do not lie on the road; NONE: no such ones.");
+        WhiteLine x = Made.road(8);
         int[][] none = {{0, 1, 10}, {5, 1, 10}, {LEAST, 1, 10}, {MOST, 1, 10}, {1, 0, 10}, {1, 17, 10}, {1, LEAST, 10},
             {1, MOST, 10}, {1, 1, -1}, {1, 1, 1}, {4, 1, 4}, {4, 1, 9}, {4, 1, 11}, {1, 1, LEAST}, {1, 1, MOST}, {1, 16, 1},
             {4, 16, 11}, {4, 16, -1}};
@@ -126,6 +158,10 @@ public final class Promises27To36EdgesTest {
     private static void who() {
         Due.sentence("Promise 32", "what 0 how many twos, 1, 2 MINUTE and way of the first (-2: none)");
         WhiteLine x = Made.by(8, "d0(1=1)");
+        int[] bare = {2, 0, 0};
+        for (int what = 0; what < 3; what++) {
+            Due.is("bare: who(" + what + ")", bare[what], x.who(what));
+        }
         x.party(0, true, 0);
         x.car(0, 0, 0);
         x.minutes(1);
@@ -141,9 +177,13 @@ public final class Promises27To36EdgesTest {
         for (int what = 0; what < 3; what++) {
             Due.is("who(" + what + ")", due[what], y.who(what));
         }
+    }
+
+    private static void whoRefused() {
         Due.sentence("Promise 32", "NONE: no such what.");
+        WhiteLine x = Made.road(8);
         for (int what : new int[] {-1, 3, LEAST, MOST}) {
-            Due.is("who(" + what + ")", -1, y.who(what));
+            Due.is("who(" + what + ")", -1, x.who(what));
         }
     }
 
@@ -172,10 +212,12 @@ public final class Promises27To36EdgesTest {
         x.keep();
         Due.is("kept", true, x.undo());
         Made.isAs("nothing has changed since", before, x);
-        x.road(12);
-        Due.is("undone", true, x.undo());
-        Due.is("undone again", true, x.undo());
-        Made.isAs("undone", before, x);
+        WhiteLine z = Made.busy();
+        z.keep();
+        z.road(12);
+        Due.is("undone", true, z.undo());
+        Due.is("undone again", true, z.undo());
+        Made.isAs("undone", before, z);
         WhiteLine y = new WhiteLine();
         y.keep();
         y.road(64);
@@ -189,14 +231,18 @@ public final class Promises27To36EdgesTest {
         Due.is("nor the tape", 20, y.count(7));
     }
 
-    private static void check() {
-        Due.sentence("Promise 35", "CHECK by the first n bytes of the tape (0 to DOTS; empty then): NONE: right");
+    private static WhiteLine allAt5() {
         WhiteLine x = Made.road(8);
         x.party(0, true, 5);
         x.minutes(8);
-        int[] all = {105, 105, 105, 105, 105, 105, 105, 105, 9};
+        return x;
+    }
+
+    private static void checkRight() {
+        Due.sentence("Promise 35", "CHECK by the first n bytes of the tape (0 to DOTS; empty then): NONE: right");
+        WhiteLine x = allAt5();
         for (int n = 0; n <= 8; n++) {
-            Due.feed(x, all);
+            Due.feed(x, ALL_AT_5);
             Due.is("check(" + n + ")", -1, x.check(n));
             Due.is("empty then", 0, x.count(7));
         }
@@ -206,9 +252,13 @@ public final class Promises27To36EdgesTest {
             y.feed(0, 0, 0, 0, 0);
         }
         Due.is("64 that are bare", -1, y.check(64));
+    }
+
+    private static void checkWrong() {
         Due.sentence("Promise 35", "else the place of the first one that is not so");
+        WhiteLine x = allAt5();
         for (int place = 0; place < 8; place++) {
-            int[] wrong = all.clone();
+            int[] wrong = ALL_AT_5.clone();
             wrong[place] = 106;
             wrong[7] = 0;
             Due.feed(x, wrong);
@@ -217,20 +267,25 @@ public final class Promises27To36EdgesTest {
             Due.feed(x, wrong);
             Due.is("told up to it", -1, x.check(place));
         }
+    }
+
+    private static void checkRefused() {
         Due.sentence("Promise 35", "-2: no such n, it has not so many (the tape stays).");
+        WhiteLine x = allAt5();
         Due.is("it has none", -2, x.check(1));
-        Due.feed(x, all);
+        Due.feed(x, ALL_AT_5);
         for (int n : new int[] {-1, 9, 20, 21, LEAST, MOST}) {
             Due.is("check(" + n + ")", -2, x.check(n));
             Due.is("the tape stays", 20, x.count(7));
         }
         Due.is("its bytes", -1, x.check(8));
+        WhiteLine y = Made.road(64);
         y.feed(0, 0, 0, 0, 0);
         Due.is("21 of 20", -2, y.check(21));
         Due.is("20 of 20", -1, y.check(20));
     }
 
-    private static void count() {
+    private static void countPlain() {
         Due.sentence("Promise 36", "0 DOTS, 1 THE MINUTE, 2 painted ones, 3 SPOILT ones, 4 CONES, 5 DEW (-2: none), 6 CLAUSES, 7 bytes of the tape");
         WhiteLine x = Made.busy();
         Due.feed(x, 1);
@@ -238,18 +293,33 @@ public final class Promises27To36EdgesTest {
         for (int what = 0; what < due.length; what++) {
             Due.is("count(" + what + ")", due[what], x.count(what));
         }
+        WhiteLine all = Made.by(64, "d99(1=1)");
+        all.party(1, true, 0);
+        all.car(0, 1, 0);
+        all.minutes(64);
+        Due.is("64 dots", 64, all.count(0));
+        Due.is("64 painted", 64, all.count(2));
+        Due.is("64 spoilt", 64, all.count(3));
         x.dew(-1);
         Due.is("no dew", -2, x.count(5));
         x.dew(0);
         Due.is("dew at 0", 0, x.count(5));
+    }
+
+    private static void countParties() {
         Due.sentence("Promise 36", "10 + a whether PARTY a works (1, 0), 20 + a its offset (100 more than it is)");
+        WhiteLine x = Made.busy();
         x.party(0, false, -20);
         x.party(1, true, 20);
         Due.is("count(10)", 0, x.count(10));
         Due.is("count(11)", 1, x.count(11));
         Due.is("count(20)", 80, x.count(20));
         Due.is("count(21)", 120, x.count(21));
+    }
+
+    private static void countCars() {
         Due.sentence("Promise 36", "30 + i the way, 50 + i the MINUTE of told CAR i");
+        WhiteLine x = Made.busy();
         x.car(0, 0, 0);
         x.car(11, 1, 9999);
         Due.is("count(30)", 0, x.count(30));

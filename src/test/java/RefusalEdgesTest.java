@@ -12,11 +12,20 @@ public final class RefusalEdgesTest {
     private static final int MOST = Integer.MAX_VALUE;
 
     public static void main(String[] args) {
+        none();
         changesNothing();
         questionsChangeNothing();
         noneIsToldFirst();
         inPlaceOfNone();
         Due.end("RefusalEdgesTest");
+    }
+
+    private static void none() {
+        Due.sentence("Terms", "`NONE = -1`: There is none.");
+        Due.is("NONE", -1, WhiteLine.NONE);
+        WhiteLine x = Made.road(8);
+        Due.is("told as no dew", true, x.dew(WhiteLine.NONE));
+        Due.is("answered by a refused call", WhiteLine.NONE, x.minutes(0));
     }
 
     private static int told(boolean answer) {

@@ -217,9 +217,20 @@ public final class RoadEdgesTest {
         Due.is("fewer, behind a digit", -1001, kerbOf8("1"));
         Due.is("fewer, behind two", -1002, kerbOf8("12"));
         Due.is("one fewer", -1003, kerbOf8("1*7"));
+        textEnds("1*7,1", 3, -1003);
+        textEnds("1*75", 3, -1003);
+        textEnds("12", 1, -1001);
+        textEnds("1*8", 1, -1001);
+        textEnds("1*8", 2, -1002);
+        textEnds("-1", 1, -1001);
+        textEnds("1,1*7", 2, -1002);
+    }
+
+    /** A row by the first n bytes of a tape that goes on as if the text did. */
+    private static void textEnds(String tape, int n, int due) {
         WhiteLine x = Made.road(8);
-        Due.feed(x, "1*7,1");
-        Due.is("the tape goes on, the text does not", -1003, x.row(0, 3));
+        Due.feed(x, tape);
+        Due.is(n + " bytes of " + tape, due, x.row(0, n));
     }
 
     private static void badTimes() {

@@ -8,17 +8,13 @@ final class Made {
 
     static WhiteLine road(int dots) {
         WhiteLine x = new WhiteLine();
-        if (!x.road(dots)) {
-            throw new IllegalArgumentException("a test's own road: " + dots);
-        }
+        Due.is("a test's own road(" + dots + ")", true, x.road(dots));
         return x;
     }
 
     static WhiteLine by(int dots, String law) {
         WhiteLine x = road(dots);
-        if (Due.law(x, law) < 1) {
-            throw new IllegalArgumentException("a test's own law: " + law);
-        }
+        Due.is("a test's own law " + law, true, Due.law(x, law) > 0);
         return x;
     }
 
