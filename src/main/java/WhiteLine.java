@@ -1399,8 +1399,11 @@ public final class WhiteLine {
         private static final int OFFSETS = 2 * MOST_SMOOTH + 1;
         private static final int FAR = 1000000;
 
-        /** By DOT and offset: how far off the best line is from that DOT on. */
-        private final int[][] offFrom = new int[MOST_DOTS][OFFSETS];
+        /** By offset: how far off the best line is from a DOT on, and from the next one on. */
+        private final int[] offHere = new int[OFFSETS];
+        private final int[] offBehind = new int[OFFSETS];
+        /** By DOT: the lowest of the offsets there from which on a line is off least. */
+        private final int[] bestAt = new int[MOST_DOTS];
         /** By DOT: how many DOTS at least are pinned behind it. */
         private final int[] pinsBehind = new int[MOST_DOTS];
         /** The offsets that are SMOOTH, or the DOTS that are PINNED. */
@@ -1408,27 +1411,36 @@ public final class WhiteLine {
 
         /** Answers how far off the line is in all. */
         int makeSmooth(Road road, int g) {
-            for (int i = road.dots - 1; i >= 0; i--) {
+            int last = road.dots - 1;
+            for (int i = last; i >= 0; i--) {
+                System.arraycopy(offHere, 0, offBehind, 0, OFFSETS);
                 for (int x = 0; x < OFFSETS; x++) {
-                    int behind = i == road.dots - 1 ? 0 : offFrom[i + 1][leastNear(i + 1, x, g)];
-                    offFrom[i][x] = Math.abs(x - MOST_SMOOTH - road.kerb[i]) + behind;
+                    int behind = i == last ? 0 : offBehind[nearest(bestAt[i + 1], x, g)];
+                    offHere[x] = Math.abs(x - MOST_SMOOTH - road.kerb[i]) + behind;
                 }
+                bestAt[i] = lowestBest();
             }
-            int x = leastNear(0, 0, OFFSETS);
-            int off = offFrom[0][x];
-            for (int i = 0; i < road.dots; i++) {
-                x = i == 0 ? x : leastNear(i, x, g);
+            int x = bestAt[0];
+            for (int i = 0; i <= last; i++) {
+                x = i == 0 ? x : nearest(bestAt[i], x, g);
                 chosen[i] = x - MOST_SMOOTH;
             }
-            return off;
+            return offHere[bestAt[0]];
         }
 
-        /** The lowest of the best offsets at a DOT that are not more than g from x. */
-        private int leastNear(int i, int x, int g) {
-            int best = Math.max(0, x - g);
-            for (int y = best + 1; y < OFFSETS && y <= x + g; y++) {
-                if (offFrom[i][y] < offFrom[i][best]) {
-                    best = y;
+        /**
+         * Of the offsets that are not more than g from x, the one to go on with: how far off a line is
+         * never falls on the way from the best offset to either side.
+         */
+        private static int nearest(int best, int x, int g) {
+            return heldIn(best, x - g, x + g);
+        }
+
+        private int lowestBest() {
+            int best = 0;
+            for (int x = 1; x < OFFSETS; x++) {
+                if (offHere[x] < offHere[best]) {
+                    best = x;
                 }
             }
             return best;

@@ -11,7 +11,7 @@ public final class RoomTest {
             objects[k] = new WhiteLine();
         }
         long each = (bean.getCurrentThreadAllocatedBytes() - before) / objects.length;
-        Due.is("bytes of an object: " + each, true, each < 60000);
+        Due.is("bytes of an object: " + each, true, each < 25000);
         WhiteLine x = objects[0];
         Due.law(x, "p2+t%2(1=1);d9+k/[i-3]+t%7(1=1|h=0);s5(w<3);o9(1=1);l20-9*r(1=1)");
         callAll(x, new Random(1));
