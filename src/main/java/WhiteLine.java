@@ -907,7 +907,9 @@ public final class WhiteLine {
             if (steps >= MOST_STEPS) {
                 return NONE;
             }
-            asksForMinute |= sign == LETTER && value == 't';
+            if (sign == LETTER && value == 't') {
+                asksForMinute = true;
+            }
             signs[steps] = sign;
             values[steps] = value;
             steps++;
